@@ -1088,14 +1088,8 @@ public final class NineMowers {
         int comes(Mower mower) {
             int m = mower.number;
             mowers[m] = mower;
-            at[m] = 0;
+            // All else of its own is still 0: nobody behind the last one is ever written, and undo() clears.
             edge[m] = SHARP;
-            tired[m] = 0;
-            stopped[m] = 0;
-            // An undone mower may have left its numbers here.
-            for (int part = 0; part < 4; part++) {
-                told[4 * m + part] = 0;
-            }
             line[count] = m;
             count++;
             inLine = count;

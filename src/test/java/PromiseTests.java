@@ -17,6 +17,7 @@ public final class PromiseTests {
         field();
         faults();
         tests();
+        tens();
         told();
         minute();
         minuteEdges();
@@ -146,6 +147,10 @@ public final class PromiseTests {
             x.set(m, 2, 45);
         }
         strides("tired 45", x, 4, 6, 9, 2, 4, 6);
+        x.set(0, 2, 40);
+        x.set(2, 2, 39);
+        strides("cut by 20", x, 4, 6, 10, 2, 4, 6);
+        x.set(2, 2, 45);
         for (int m = 0; m < 6; m++) {
             x.set(m, 1, 5);
         }
@@ -162,6 +167,8 @@ public final class PromiseTests {
         x.pause(2);
         strides("minute 2", x, 3, 3, 3, 1, 2, 6);
         pressed();
+        NineMowers old = with("slow 3 m<9", OLD, 2, OLD, 3, OLD, 6, OLD, 9);
+        strides("v by 3", old, 3, 2, 1, 0);
         NineMowers slow = with("slow 5 e>0", MOWER, 0, BOY, 0, OLD, 9, HASTY, 3);
         for (int m = 0; m < 4; m++) {
             slow.set(m, 2, 99);
@@ -264,6 +271,9 @@ public final class PromiseTests {
         NineMowers x = new NineMowers();
         due("sign -1", x.feed(-1), BAD);
         due("sign 128", x.feed(128), BAD);
+        due("sign 0", x.feed(0), 1);
+        due("sign 127", x.feed(127), 2);
+        due("empties", x.field(), -10);
         for (int i = 1; i <= 100; i++) {
             due("feed", x.feed(i % 128), i);
         }
@@ -337,6 +347,8 @@ public final class PromiseTests {
         due("a text of 100", x.field(), -15);
         due("10 CLAUSES", Due.field(x, "gap 1;gap 1;gap 1;gap 1;gap 1;gap 1;gap 1;gap 1;gap 1;gap 8"), 0);
         due("the last GAP", x.told(1), 8);
+        due("the tenth CLAUSE is fast", with("gap 1;gap 1;gap 1;gap 1;gap 1;gap 1;gap 1;gap 1;gap 1;fast 8 m=0", MOWER, 0)
+            .of(0, 7), 14);
         due("4 within each other", Due.field(x, "slow 1 !!!!m=1;fast 12 ((((k=10))));slow 3 !(!(m=1)|t<99)&!!!!d>1"), 1);
     }
 
@@ -359,6 +371,9 @@ public final class PromiseTests {
         asks("t=0", 5, 0, 5);
         asks("t=1", 0, 5, 0);
         asks("t>0", 0, 5, 0);
+        asks("m<0", 0, 0, 0);
+        asks("m<0|m=1", 0, 5, 0);
+        asks("m<0|k<0&t<0", 0, 0, 0);
         asks("d=3", 5, 5, 5);
         asks("d=13", 0, 0, 0);
         asks("m=01", 0, 5, 0);
@@ -378,6 +393,15 @@ public final class PromiseTests {
         due("slow alone", x.of(2, 7), 4);
         x.pause(1);
         due("MINUTE 1", x.of(2, 7), 6);
+    }
+
+    private static void tens() {
+        NineMowers x = with("fast 1 t=1;fast 2 t=2;fast 3 t=9", STEADY, 0);
+        int[][] tired = {{9, 6}, {10, 7}, {19, 7}, {20, 8}, {29, 8}, {30, 6}, {89, 6}, {90, 9}, {99, 9}};
+        for (int[] one : tired) {
+            x.set(0, 2, one[0]);
+            due("PACE with TIRED " + one[0], x.of(0, 7), one[1]);
+        }
     }
 
     /** How much faster each of three is by a field that asks so: places 2, 0, 1; MINUTE 13. */
@@ -657,6 +681,10 @@ public final class PromiseTests {
         due("pressed from GAP 7 on", press.apart(1, 0), 7);
         due("pressed, how much", press.apart(1, 1), 9 + 8 + 6);
         due("GAP stays", press.told(1), 2);
+        press.set(0, 0, 11);
+        due("pressed from GAP 9 on", press.apart(1, 0), 9);
+        press.set(0, 0, 12);
+        due("GAP 9 at most", press.apart(1, 0), 0);
         due("one alone", with("", MOWER, 0).apart(60, 0), 0);
         due("what 2", x.apart(0, 2), NONE);
         due("what -1", x.apart(1, -1), NONE);
@@ -675,6 +703,11 @@ public final class PromiseTests {
         x.set(0, 3, 1);
         due("more than it is STOPPED already", x.stop(0, 1, 2, 0), 6 + 4 + 2);
         due("STOPPED stays", x.of(0, 5), 1);
+        due("r 1, n 1", x.stop(1, 1, 1, 0), 0);
+        NineMowers turned = with("", STEADY, 0, STEADY, 0);
+        turned.place(1, 0);
+        due("hits 0", turned.stop(1, 1, 1, 1), 1);
+        due("hits 0 by 4", turned.stop(1, 1, 1, 0), 10);
         NineMowers tired = with("tire 99;slow 6 t>0", MOWER, 0);
         due("no less by", tired.stop(0, 1, 2, 0), 0);
         NineMowers better = with("slow 6 d=0;slow 6 e<10", STEADY, 0);
@@ -721,6 +754,9 @@ public final class PromiseTests {
         due("the least number", two.rest(6, 0), 0);
         due("all AT then", two.rest(6, 1), 46 + 21);
         due("STOPPED stays", two.of(0, 5), 0);
+        NineMowers last = with("slow 5 d<5&m=2;slow 6 e<10&m=2", STEADY, 0, STEADY, 0, STEADY, 0);
+        due("the last one", last.rest(60, 0), 2);
+        due("the last one, how much", last.rest(60, 1), restedLast(last));
         two.place(1, 0);
         due("the least number, not place", two.rest(5, 0), -5);
         due("what 2", x.rest(0, 2), NONE);
@@ -728,6 +764,16 @@ public final class PromiseTests {
         due("n 0", x.rest(0, 0), BAD);
         due("n 61", x.rest(61, 1), BAD);
         due("nobody", new NineMowers().rest(1, 0), -5);
+    }
+
+    /** All AT behind 60 MINUTES with the last one STOPPED for 5, played out on the object. */
+    private static int restedLast(NineMowers x) {
+        x.image();
+        x.set(2, 3, 5);
+        minutes(x, 60);
+        int all = x.of(0, 2) + x.of(1, 2) + x.of(2, 2);
+        x.undo();
+        return all;
     }
 
     private static int[] restByHand(NineMowers x, int n) {
@@ -756,6 +802,7 @@ public final class PromiseTests {
         due("before it, how much", x.paused(3, 1), 18);
         x.set(0, 2, 20);
         NineMowers late = with("fast 9 d<2", STEADY, 0);
+        due("1 MINUTE", late.paused(1, 1), 15);
         due("first both fast MINUTES", late.paused(3, 0), 2);
         due("first both, how much", late.paused(3, 1), 15 + 15 + 6);
         NineMowers end = with("fast 9 d<3", STEADY, 0);
@@ -815,6 +862,9 @@ public final class PromiseTests {
         NineMowers late = with("", STEADY, 0);
         late.see(0, 30, 27 * 3 + 30);
         due("behind 30", late.who(), 1);
+        late.see(-1, 0, 0);
+        late.see(0, 30, 27 * 3 + 31);
+        due("otherwise behind 30", late.who(), 0);
         due("STOPPED stays", late.of(0, 5), 0);
     }
 
@@ -835,6 +885,9 @@ public final class PromiseTests {
         due("part -1", x.odds(0, 1, -1), NO);
         fraction(with("", STEADY, 0, STEADY, 0), 1, 4, 1, 2);
         fraction(with("", STEADY, 0, STEADY, 0), 1, 60, 1, 2);
+        // Nobody goes on before MINUTE 5, or 4: so it tells whether 0 is STOPPED for 5, not more, not less.
+        fraction(with("gap 0;slow 6 d<5;slow 5 m=1", STEADY, 0, STEADY, 0), 1, 6, 0, 1);
+        fraction(with("gap 0;slow 6 d<4;slow 5 m=1", STEADY, 0, STEADY, 0), 1, 5, 1, 2);
         NineMowers always = with("gap 9", STEADY, 0, STEADY, 0);
         fraction(always, 1, 1, 1, 2);
         always.set(0, 3, 99);
@@ -860,6 +913,9 @@ public final class PromiseTests {
         due("n 0", x.mean(0, 0), NO);
         due("n 61", x.mean(61, 0), NO);
         due("nobody", new NineMowers().mean(1, 0), NO);
+        NineMowers one = with("", STEADY, 0);
+        due("one above", one.mean(60, 0), 210);
+        due("one below", one.mean(60, 1), 1);
         NineMowers still = with("slow 6 m<9", MOWER, 0, MOWER, 0);
         due("none above", still.mean(60, 0), 0);
         due("none below", still.mean(60, 1), 1);
