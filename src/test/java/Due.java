@@ -48,6 +48,15 @@ final class Due {
         return x;
     }
 
+    /** As with(), but when so many MINUTES have gone by in PAUSES. */
+    static NineMowers atMinute(int minute, String text, int... kindsAndVs) {
+        NineMowers x = with(text, kindsAndVs);
+        for (int left = minute; left > 0; left -= 60) {
+            x.pause(Math.min(60, left));
+        }
+        return x;
+    }
+
     /** All that can be read of an object, but for THE TEXT's bytes and the hidden lists. */
     static String shown(NineMowers x) {
         StringBuilder all = new StringBuilder();

@@ -69,11 +69,7 @@ public final class PromiseTests {
     }
 
     private static NineMowers atMinute(int minute, int... kindsAndVs) {
-        NineMowers x = with("", kindsAndVs);
-        while (x.told(0) < minute) {
-            x.pause(Math.min(60, minute - x.told(0)));
-        }
-        return x;
+        return Due.atMinute(minute, "", kindsAndVs);
     }
 
     // Promise 1
